@@ -7,7 +7,9 @@ public final class SticksTest {
         writePages();
         writeIsOfItsTime();
         writeAnew();
-        writeFromLeastHeard();
+        writeFromLeastHeard(0, new int[] {1, 2, 3});
+        writeFromLeastHeard(3, new int[] {2, 1, 0});
+        writeFromLeastHeard(1, new int[] {0, 3, 2});
         writeAsksNeitherWriterNorOwner();
         writeNothingIfOthersKnowMore();
         writeOneBookBehindTheOther();
@@ -66,24 +68,25 @@ public final class SticksTest {
         Check.equal("whole again", 1, x.stick(0, 2));
     }
 
-    private static void writeFromLeastHeard() {
+    private static void writeFromLeastHeard(int writer, int[] others) {
         ClinicBooks x = new ClinicBooks();
-        Check.fill(x, 0, 3);
-        x.write(0, 0);
-        for (int c = 1; c < 4; c++) {
+        Check.fill(x, writer, 3);
+        x.write(writer, 0);
+        for (int i = 0; i < 3; i++) {
+            int c = others[i];
             x.load(c, 0);
             x.write(c, 1);
-            x.load(0, 1);
-            Check.equal("heard of " + c, 3, x.heard(0, c, 0));
-            x.write(0, 2);
-            Check.equal("written when heard of up to " + c, c < 3 ? 3 : 0, x.stick(2, 2));
+            x.load(writer, 1);
+            Check.equal("heard of " + c, 3, x.heard(writer, c, writer));
+            x.write(writer, 2);
+            Check.equal("written when heard of up to " + c, i < 2 ? 3 : 0, x.stick(2, 2));
         }
         Check.equal("page 0 alone", 1, x.stick(2, 0));
-        Check.fill(x, 0, 2);
-        Check.equal("what is new", 2, x.write(0, 2));
+        Check.fill(x, writer, 2);
+        Check.equal("what is new", 2, x.write(writer, 2));
         Check.equal("the new entries", 2, x.stick(2, 2));
-        Check.equal("they are the next ones", 2, x.load(2, 2));
-        Check.equal("all known", 5, x.known(2, 0));
+        Check.equal("they are the next ones", 2, x.load(others[1], 2));
+        Check.equal("all known", 5, x.known(others[1], writer));
     }
 
     private static void writeAsksNeitherWriterNorOwner() {

@@ -1,13 +1,18 @@
+import java.io.IOException;
 import java.lang.reflect.Constructor;
 import java.lang.reflect.Field;
 import java.lang.reflect.Method;
 import java.lang.reflect.Modifier;
+import java.util.ArrayList;
 import java.util.Arrays;
+import java.util.List;
 import java.util.Set;
 import java.util.TreeSet;
+import java.util.regex.Matcher;
+import java.util.regex.Pattern;
 import java.util.stream.Collectors;
 
-/** The face that the document gives, and rules 1, 5 and 11 of LANGUAGE.md where reflection sees them. */
+/** The face: by reflection, and each declaration as it stands in the document, its parameters' names too. */
 public final class FaceTest {
     private static final String[] FACE = {
         "int counting(int,int,int) IllegalArgumentException",
@@ -31,7 +36,7 @@ public final class FaceTest {
         "void schedule(int,int,int,int,int) IllegalArgumentException,IllegalStateException",
     };
 
-    public static void main(String[] args) {
+    public static void main(String[] args) throws IOException {
         Class<?> face = ClinicBooks.class;
         Check.equal("public and final", Modifier.PUBLIC | Modifier.FINAL, face.getModifiers());
         Check.equal("class above", "java.lang.Object", face.getSuperclass().getName());
@@ -45,6 +50,9 @@ public final class FaceTest {
             Check.equal(inside + " is static", 1, Modifier.isStatic(inside.getModifiers()) ? 1 : 0);
             Check.equal(inside + " is open", 0,
                     inside.getModifiers() & (Modifier.PUBLIC | Modifier.PROTECTED));
+        }
+        if (Document.isThere()) {
+            declarations(documentFace());
         }
         Check.finish();
     }
@@ -85,5 +93,43 @@ public final class FaceTest {
             }
             Check.equal(f + " is final", 1, Modifier.isFinal(f.getModifiers()) ? 1 : 0);
         }
+    }
+
+    /** The members between the braces of the document's public face, without their semicolons. */
+    private static List<String> documentFace() throws IOException {
+        Matcher block = Pattern.compile("(?s)```java\\s+public final class ClinicBooks \\{(.*?)\\}").matcher(
+                Document.text());
+        List<String> members = new ArrayList<>();
+        if (block.find()) {
+            for (String member : block.group(1).split(";")) {
+                if (!member.isBlank()) {
+                    members.add(oneLine(member));
+                }
+            }
+        }
+        return members;
+    }
+
+    private static String oneLine(String text) {
+        return text.replaceAll("\\s+", " ").trim();
+    }
+
+    private static void declarations(List<String> members) throws IOException {
+        String source = oneLine(Document.source());
+        Check.equal("members of the document's face", FACE.length + 2, members.size());
+        for (String member : members) {
+            String end = member.contains("(") ? " {" : ";";
+            Check.equal("the source declares '" + member + "'", 1, source.contains(member + end) ? 1 : 0);
+        }
+        int open = source.split("\\bpublic\\b", -1).length - 1;
+        Check.equal("what is public, the class among it", members.size() + 1, open);
+        Matcher promise = Pattern.compile("(?m)^`([^`]*\\)[^`]*)`: ").matcher(Document.text());
+        int promises = 0;
+        while (promise.find()) {
+            promises++;
+            Check.equal("the face has '" + promise.group(1) + "'", 1,
+                    members.contains("public " + promise.group(1)) ? 1 : 0);
+        }
+        Check.equal("declarations of the promises", 20, promises);
     }
 }

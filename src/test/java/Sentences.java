@@ -1,45 +1,54 @@
 import java.io.IOException;
-import java.nio.file.Files;
-import java.nio.file.Path;
+import java.util.BitSet;
 import java.util.Map;
 import java.util.TreeMap;
 
 /**
  * Tests that stand for words of the document: each is run under the words that it holds to. At the
- * end every word 'if' of the twenty promises must stand in words that a test was run for.
+ * end every word of the document must stand in words that a test was run for, but for its headings
+ * and the declarations, which FaceTest compares.
  */
 final class Sentences {
     static final int TERMS = 0;
 
     private static final int PROMISES = 20;
-    private static final Path DOCUMENT = Path.of("..", "shared", "DOC.md");
 
-    /** The document's text under each promise, without the words that were tested so far. */
-    private static final Map<Integer, String> UNTESTED = new TreeMap<>();
+    /** The document's text under each promise, and which of its characters were tested so far. */
     private static final Map<Integer, String> WHOLE = new TreeMap<>();
+    private static final Map<Integer, BitSet> TESTED = new TreeMap<>();
 
     private Sentences() {
     }
 
     static void readDocument() throws IOException {
-        if (!Files.exists(DOCUMENT)) {
-            System.out.println(DOCUMENT + " is not there: the tests run, their words are not looked up");
+        if (!Document.isThere()) {
+            System.out.println("the document is not there: the tests run, their words are not looked up");
             return;
         }
-        String[] parts = Files.readString(DOCUMENT).split("\n## (?=Promise )");
+        String[] parts = Document.text().split("\n## Not promised")[0].split("\n## (?=Promise )");
         Check.equal("promises of the document", PROMISES, parts.length - 1);
         for (int n = 0; n < parts.length; n++) {
-            String text = parts[n].replace("```text", " ").replace("```", " ").replaceAll("\\s+", " ");
-            WHOLE.put(n, text.split("## Not promised")[0]);
+            WHOLE.put(n, wordsOf(parts[n]));
+            TESTED.put(n, new BitSet());
+            TESTED.get(n).set(0, endOfDeclaration(WHOLE.get(n)));
         }
-        UNTESTED.putAll(WHOLE);
+    }
+
+    private static String wordsOf(String part) {
+        return part.replaceAll("(?s)```java.*?```", " ")
+                .replaceAll("```(text)?", " ")
+                .replaceAll("(?m)^(#+ |Promise \\d).*$", " ")
+                .replaceAll("\\s+", " ").trim();
+    }
+
+    /** A promise begins with the declaration of its call, between two backticks. */
+    private static int endOfDeclaration(String words) {
+        return words.startsWith("`") ? words.indexOf('`', 1) + 1 : 0;
     }
 
     static void test(int promise, String words, Runnable body) {
         if (!WHOLE.isEmpty()) {
-            Check.equal("promise " + promise + " says '" + words + "'", 1,
-                    WHOLE.get(promise).contains(words) ? 1 : 0);
-            UNTESTED.put(promise, UNTESTED.get(promise).replace(words, ""));
+            mark(promise, words);
         }
         boolean wrongBefore = Check.anyWrong();
         body.run();
@@ -48,11 +57,26 @@ final class Sentences {
         }
     }
 
-    static void everyIfWasTested() {
-        for (int n = 1; n <= PROMISES && !WHOLE.isEmpty(); n++) {
-            String rest = UNTESTED.get(n);
-            Check.equal("promise " + n + " without its tested words, '" + rest + "', has an if", 0,
-                    rest.contains(" if ") || rest.startsWith("if ") ? 1 : 0);
+    private static void mark(int promise, String words) {
+        String whole = WHOLE.get(promise);
+        int at = whole.indexOf(words);
+        Check.equal("promise " + promise + " says '" + words + "'", 1, at >= 0 ? 1 : 0);
+        while (at >= 0) {
+            TESTED.get(promise).set(at, at + words.length());
+            at = whole.indexOf(words, at + 1);
         }
+    }
+
+    static void everyWordWasTested() {
+        for (int n : WHOLE.keySet()) {
+            Check.equal("the untested words of promise " + n, "", untested(n));
+        }
+    }
+
+    /** What joins tested words, 'and' or 'or' alone, says nothing by itself. */
+    private static String untested(int promise) {
+        StringBuilder rest = new StringBuilder(WHOLE.get(promise));
+        TESTED.get(promise).stream().forEach(i -> rest.setCharAt(i, ' '));
+        return rest.toString().replaceAll("\\b(and|or)\\b", " ").replaceAll("[^A-Za-z0-9]+", " ").trim();
     }
 }
